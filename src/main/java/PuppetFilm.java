@@ -1484,7 +1484,7 @@ public final class PuppetFilm {
             }
             for (int axis = 0; axis < AXES; axis++) {
                 int k = now - motorStart[axis] + 1;
-                if (k <= motorFrames[axis]) {
+                if (within(k, 1, motorFrames[axis])) {
                     axes[axis] = eased(motorFrom[axis], motorGoal[axis], k, motorFrames[axis], motorEase[axis]);
                 }
                 shot.putAxis(now, axis, axes[axis]);
@@ -1519,9 +1519,13 @@ public final class PuppetFilm {
         final int[] stages = new int[MOST];
         final int[] dresses = new int[MOST];
         final int[] spans = new int[MOST * UNITS];
-        final int[] clashes = new int[MOST * MOST];
+        /** Bits for those that clash with each. */
+        final int[] clashes = new int[MOST];
         boolean fresh;
+        /** Bits for those that are placed, and which was the last of them. */
         int used;
+        int last;
+        int lastUnit;
         final int[] ends = new int[MOST];
         final int[] unitEnds = new int[UNITS];
         final int[] unitStages = new int[UNITS];
@@ -1545,6 +1549,8 @@ public final class PuppetFilm {
                 return;
             }
             used = 0;
+            last = NONE;
+            lastUnit = NONE;
             Arrays.fill(unitEnds, 0);
             Arrays.fill(unitStages, NONE);
             bestTop = NEVER;
@@ -1577,10 +1583,12 @@ public final class PuppetFilm {
             for (int unit = 0; unit < UNITS; unit++) {
                 note(spans, i * UNITS + unit, studio.spanOf(shot, unit));
             }
+            int bits = 0;
             for (int j = 0; j < size; j++) {
                 Shot other = studio.shotAt(entry(numbers, j, NONE));
-                note(clashes, i * MOST + j, other != null && studio.collide(shot, other) ? 1 : 0);
+                bits |= other != null && studio.collide(shot, other) ? 1 << j : 0;
             }
+            note(clashes, i, bits);
         }
 
         private void note(int[] row, int at, int value) {
@@ -1597,16 +1605,31 @@ public final class PuppetFilm {
             }
             for (int i = 0; i < size; i++) {
                 for (int unit = 0; unit < UNITS && !hasBit(used, i); unit++) {
-                    place(depth, i, unit, top, sum);
+                    if (!isEcho(i, unit)) {
+                        place(depth, i, unit, top, sum);
+                    }
                 }
             }
+        }
+
+        /** Whether a way that comes first, and so is tried anyhow, has the same ENDS as all that go on so. */
+        private boolean isEcho(int i, int unit) {
+            for (int other = 0; other < unit; other++) {
+                if (unitEnds[other] == unitEnds[unit] && unitStages[other] == unitStages[unit]
+                        && studio.rateOf(other) == studio.rateOf(unit)) {
+                    return true;
+                }
+            }
+            return last > i && lastUnit != unit && !hasBit(clashes[i], last);
         }
 
         private void place(int depth, int i, int unit, int top, int sum) {
             int unitEnd = unitEnds[unit];
             int unitStage = unitStages[unit];
+            int ahead = last;
+            int unitAhead = lastUnit;
             int start = unitEnd + (unitStage == stages[i] ? 0 : dresses[i]);
-            int begin = Math.max(start, lastClash(i));
+            int begin = Math.max(start, clashEnd(i));
             int end = begin + spans[i * UNITS + unit];
             way[4 * depth] = numbers[i];
             way[4 * depth + 1] = unit;
@@ -1616,20 +1639,26 @@ public final class PuppetFilm {
             ends[i] = end;
             unitEnds[unit] = end;
             unitStages[unit] = stages[i];
+            last = i;
+            lastUnit = unit;
             extendWay(depth + 1, Math.max(top, end), sum + end);
+            last = ahead;
+            lastUnit = unitAhead;
             used &= ~(1 << i);
             unitEnds[unit] = unitEnd;
             unitStages[unit] = unitStage;
         }
 
-        private int lastClash(int i) {
-            int last = 0;
+        /** The last END of those placed that clash with one. */
+        private int clashEnd(int i) {
+            int placed = used & clashes[i];
+            int end = 0;
             for (int j = 0; j < size && j < MOST; j++) {
-                if (hasBit(used, j) && clashes[i * MOST + j] != 0) {
-                    last = Math.max(last, ends[j]);
+                if (hasBit(placed, j)) {
+                    end = Math.max(end, ends[j]);
                 }
             }
-            return last;
+            return end;
         }
 
         private void keepBetter(int top, int sum) {
@@ -1640,22 +1669,70 @@ public final class PuppetFilm {
             }
         }
 
-        /** Whether even the soonest END of each SHOT that is left makes no better way. */
+        /** Whether the soonest ENDS that those left can have make no better way. */
         private boolean isHopeless(int top, int sum) {
             int leastTop = top;
             int leastSum = sum;
+            int left = 0;
             for (int i = 0; i < size; i++) {
                 if (!hasBit(used, i)) {
                     int end = soonestEnd(i);
                     leastTop = Math.max(leastTop, end);
                     leastSum += end;
+                    left |= 1 << i;
                 }
             }
-            return leastTop > bestTop || leastTop == bestTop && leastSum >= bestSum;
+            return isNoBetter(leastTop, leastSum) || allClash(left) && isHopelessInLine(left, top, sum);
+        }
+
+        private boolean isNoBetter(int top, int sum) {
+            return top > bestTop || top == bestTop && sum >= bestSum;
+        }
+
+        private boolean allClash(int left) {
+            for (int i = 0; i < size; i++) {
+                if (hasBit(left, i) && (clashes[i] & left) != left) {
+                    return false;
+                }
+            }
+            return true;
+        }
+
+        /** As isHopeless, of those that all clash, and so can only go one behind another: the shortest first. */
+        private boolean isHopelessInLine(int left, int top, int sum) {
+            int end = NEVER;
+            for (int i = 0; i < size; i++) {
+                if (hasBit(left, i)) {
+                    end = Math.min(end, clashEnd(i));
+                }
+            }
+            int still = left;
+            int leastSum = sum;
+            for (int turn = 0; turn < MOST && still != 0; turn++) {
+                int shortest = shortestOf(still);
+                end += leastSpan(shortest);
+                leastSum += end;
+                still &= ~(1 << shortest);
+            }
+            return isNoBetter(Math.max(top, end), leastSum);
+        }
+
+        private int shortestOf(int bits) {
+            int shortest = 0;
+            for (int i = 0; i < size; i++) {
+                if (hasBit(bits, i) && (!hasBit(bits, shortest) || leastSpan(i) < leastSpan(shortest))) {
+                    shortest = i;
+                }
+            }
+            return shortest;
+        }
+
+        private int leastSpan(int i) {
+            return Math.min(spans[i * UNITS], Math.min(spans[i * UNITS + 1], spans[i * UNITS + 2]));
         }
 
         private int soonestEnd(int i) {
-            int clash = lastClash(i);
+            int clash = clashEnd(i);
             int soonest = NEVER;
             for (int unit = 0; unit < UNITS; unit++) {
                 soonest = Math.min(soonest, Math.max(unitEnds[unit], clash) + spans[i * UNITS + unit]);
