@@ -17,6 +17,8 @@ final class Model {
     static final int OFF = -1000000;
 
     static final class Fault extends Exception {
+        private static final long serialVersionUID = 1L;
+
         final int kind;
         final int place;
 
