@@ -415,7 +415,7 @@ public final class PuppetFilm {
         if (floor.queuedIn(unit) >= Floor.LONGEST) {
             return -1;
         }
-        if (floor.isQueued(shot) || floor.isOn(shot)) {
+        if (floor.isEngaged(shot)) {
             return -2;
         }
         if (floor.takenOf(shot) >= it.frames) {
@@ -460,7 +460,16 @@ public final class PuppetFilm {
 
     public int foretold() {
         trial.copyFrom(floor);
-        return trial.halvesLeft();
+        for (int gone = 0; gone <= Floor.FORESIGHT; gone++) {
+            if (trial.isDone()) {
+                return gone;
+            }
+            trial.pass();
+            if (trial.isAsleep()) {
+                return NONE;
+            }
+        }
+        return NONE;
     }
 
     public int count(int what) {
@@ -703,12 +712,12 @@ public final class PuppetFilm {
 
         int trackStep(int frame, int track) {
             int at = frame * tracks + track;
-            return hasFrame(frame) && track >= 0 && track < tracks && at < steps.length ? steps[at] : 0;
+            return track >= 0 && track < tracks && at >= 0 && at < steps.length ? steps[at] : 0;
         }
 
         void putStep(int frame, int track, int step) {
             int at = frame * tracks + track;
-            if (hasFrame(frame) && track >= 0 && track < tracks && at < steps.length) {
+            if (track >= 0 && track < tracks && at >= 0 && at < steps.length) {
                 steps[at] = (byte) step;
             }
         }
@@ -720,13 +729,13 @@ public final class PuppetFilm {
 
         int voiceLetter(int frame, int voice) {
             int at = frame * voices + voice;
-            return hasFrame(frame) && voice >= 0 && voice < voices && at < letters.length ? letters[at] : 0;
+            return voice >= 0 && voice < voices && at >= 0 && at < letters.length ? letters[at] : 0;
         }
 
         void putLetter(int frame, int puppet, int letter) {
             int voice = entry(voiceOf, puppet, NONE);
             int at = frame * voices + voice;
-            if (hasFrame(frame) && voice >= 0 && voice < voices && at < letters.length) {
+            if (voice >= 0 && voice < voices && at >= 0 && at < letters.length) {
                 letters[at] = (byte) letter;
             }
         }
@@ -932,7 +941,7 @@ public final class PuppetFilm {
             int bits = 0;
             for (int p = 0; p < PUPPETS; p++) {
                 Puppet body = puppets[p];
-                if (body != null && hasBit(shot.says, p)) {
+                if (body != null && (shot.says >> p & 1) != 0) {
                     bits |= 1 << body.kit;
                 }
             }
@@ -974,10 +983,10 @@ public final class PuppetFilm {
 
         /** The next byte that is no blank, not read yet; END behind the last one. */
         int peek() {
-            while (at < length && byteAt(at) == ' ') {
+            while (at < length && text[at] == ' ') {
                 at++;
             }
-            return byteAt(at);
+            return at < length ? text[at] & 255 : END;
         }
 
         boolean trySign(int sign) {
@@ -989,7 +998,9 @@ public final class PuppetFilm {
         }
 
         void needSign(int sign) {
-            if (!trySign(sign)) {
+            if (fault == 0 && peek() == sign) {
+                at++;
+            } else {
                 fail(1, at);
             }
         }
@@ -1119,7 +1130,7 @@ public final class PuppetFilm {
                 if (depth > 0 && words.trySign(']')) {
                     closeRepeat();
                 } else {
-                    readLine();
+                    readRest(beginLine());
                 }
             }
             if (depth > 0) {
@@ -1134,28 +1145,24 @@ public final class PuppetFilm {
             return (int) Math.min(frames[0], MOST_FRAMES);
         }
 
-        private void readLine() {
+        /** Reads what an S begins with; null with a FAULT. */
+        private Line beginLine() {
             words.takeWord();
             int kind = kindOfWord();
             if (kind == NONE) {
                 words.fail(1, words.wordFrom);
-                return;
+                return null;
             }
             if (size >= MOST_LINES || kind == Line.REPEAT && depth >= DEEPEST) {
                 words.fail(3, words.wordFrom);
-                return;
+                return null;
             }
             Line line = lines[size];
             line.kind = kind;
             size++;
             line.next = size;
             done[depth]++;
-            if (kind == Line.REPEAT) {
-                openRepeat(line);
-                return;
-            }
-            readRest(line);
-            words.needSign(';');
+            return line;
         }
 
         private int kindOfWord() {
@@ -1184,7 +1191,13 @@ public final class PuppetFilm {
         }
 
         private void readRest(Line line) {
+            if (line == null) {
+                return;
+            }
             switch (line.kind) {
+                case Line.REPEAT:
+                    openRepeat(line);
+                    return;
                 case Line.HOLD:
                     line.amount = words.number(1, 200);
                     frames[depth] += line.amount;
@@ -1205,6 +1218,7 @@ public final class PuppetFilm {
                 default:
                     line.who = readWho();
             }
+            words.needSign(';');
         }
 
         private int readWho() {
@@ -1519,6 +1533,7 @@ public final class PuppetFilm {
         final int[] stages = new int[MOST];
         final int[] dresses = new int[MOST];
         final int[] spans = new int[MOST * UNITS];
+        final int[] leastSpans = new int[MOST];
         /** Bits for those that clash with each. */
         final int[] clashes = new int[MOST];
         boolean fresh;
@@ -1580,9 +1595,13 @@ public final class PuppetFilm {
             }
             note(stages, i, shot.stage);
             note(dresses, i, studio.dressOf(shot.stage));
+            int least = NEVER;
             for (int unit = 0; unit < UNITS; unit++) {
-                note(spans, i * UNITS + unit, studio.spanOf(shot, unit));
+                int span = studio.spanOf(shot, unit);
+                note(spans, i * UNITS + unit, span);
+                least = Math.min(least, span);
             }
+            note(leastSpans, i, least);
             int bits = 0;
             for (int j = 0; j < size; j++) {
                 Shot other = studio.shotAt(entry(numbers, j, NONE));
@@ -1710,7 +1729,7 @@ public final class PuppetFilm {
             int leastSum = sum;
             for (int turn = 0; turn < MOST && still != 0; turn++) {
                 int shortest = shortestOf(still);
-                end += leastSpan(shortest);
+                end += leastSpans[shortest];
                 leastSum += end;
                 still &= ~(1 << shortest);
             }
@@ -1720,15 +1739,11 @@ public final class PuppetFilm {
         private int shortestOf(int bits) {
             int shortest = 0;
             for (int i = 0; i < size; i++) {
-                if (hasBit(bits, i) && (!hasBit(bits, shortest) || leastSpan(i) < leastSpan(shortest))) {
+                if (hasBit(bits, i) && (!hasBit(bits, shortest) || leastSpans[i] < leastSpans[shortest])) {
                     shortest = i;
                 }
             }
             return shortest;
-        }
-
-        private int leastSpan(int i) {
-            return Math.min(spans[i * UNITS], Math.min(spans[i * UNITS + 1], spans[i * UNITS + 2]));
         }
 
         private int soonestEnd(int i) {
@@ -1871,7 +1886,7 @@ public final class PuppetFilm {
         static final int LONGEST = 10;
         private static final int ANIMATORS = 6;
         private static final int MOST_STANDING = 3;
-        private static final int FORESIGHT = 2000;
+        static final int FORESIGHT = 2000;
 
         final Studio studio;
         final boolean real;
@@ -1880,6 +1895,8 @@ public final class PuppetFilm {
         final int[] on = new int[UNITS];
         final int[] queues = new int[UNITS * LONGEST];
         final int[] queued = new int[UNITS];
+        /** 1 for each SHOT that is in a QUEUE, or ON. */
+        final int[] engaged = new int[SHOTS];
         final int[] dressing = new int[UNITS];
         final int[] dressed = new int[UNITS];
         final int[] standing = new int[SETS];
@@ -1889,6 +1906,8 @@ public final class PuppetFilm {
         final int[] worked = new int[ANIMATORS];
         int week;
         boolean stirred;
+        /** How many HALVES nothing stirred. */
+        int idle;
 
         Floor(Studio studio, boolean real) {
             this.studio = studio;
@@ -1905,6 +1924,7 @@ public final class PuppetFilm {
             System.arraycopy(other.on, 0, on, 0, on.length);
             System.arraycopy(other.queues, 0, queues, 0, queues.length);
             System.arraycopy(other.queued, 0, queued, 0, queued.length);
+            System.arraycopy(other.engaged, 0, engaged, 0, engaged.length);
             System.arraycopy(other.dressing, 0, dressing, 0, dressing.length);
             System.arraycopy(other.dressed, 0, dressed, 0, dressed.length);
             System.arraycopy(other.standing, 0, standing, 0, standing.length);
@@ -1913,6 +1933,7 @@ public final class PuppetFilm {
             System.arraycopy(other.limits, 0, limits, 0, limits.length);
             System.arraycopy(other.worked, 0, worked, 0, worked.length);
             week = other.week;
+            idle = 0;
         }
 
         int takenOf(int shot) {
@@ -1956,24 +1977,8 @@ public final class PuppetFilm {
             return entry(worked, animator, 0);
         }
 
-        boolean isOn(int shot) {
-            for (int unit = 0; unit < UNITS; unit++) {
-                if (on[unit] == shot) {
-                    return true;
-                }
-            }
-            return false;
-        }
-
-        boolean isQueued(int shot) {
-            for (int unit = 0; unit < UNITS; unit++) {
-                for (int i = 0; i < queued[unit]; i++) {
-                    if (queuedShot(unit, i) == shot) {
-                        return true;
-                    }
-                }
-            }
-            return false;
+        boolean isEngaged(int shot) {
+            return entry(engaged, shot, 0) != 0;
         }
 
         int enqueue(int unit, int shot) {
@@ -1981,6 +1986,7 @@ public final class PuppetFilm {
             if (length < LONGEST) {
                 putQueued(unit, length, shot);
                 swapIn(queued, unit, length + 1);
+                swapIn(engaged, shot, 1);
             }
             return queuedIn(unit);
         }
@@ -2025,26 +2031,18 @@ public final class PuppetFilm {
                 attend(unit);
             }
             half++;
+            idle = stirred ? 0 : idle + 1;
         }
 
-        /** How many HALVES it takes till nothing is left, or NONE. */
-        int halvesLeft() {
-            int idle = 0;
-            for (int gone = 0; gone <= FORESIGHT; gone++) {
-                if (isDone()) {
-                    return gone;
-                }
-                pass();
-                // Only a new WEEK wakes a FLOOR that didn't stir, so a whole idle one stays idle.
-                idle = stirred ? 0 : idle + 1;
-                if (idle > WEEK) {
-                    return NONE;
-                }
-            }
-            return NONE;
+        /**
+         * Whether nothing will ever be done any more, unless something is told: only a new WEEK wakes a FLOOR
+         * that didn't stir, and one began since it stirred last.
+         */
+        boolean isAsleep() {
+            return idle > WEEK;
         }
 
-        private boolean isDone() {
+        boolean isDone() {
             for (int unit = 0; unit < UNITS; unit++) {
                 if (on[unit] != NONE || queued[unit] > 0) {
                     return false;
@@ -2080,7 +2078,9 @@ public final class PuppetFilm {
             int kept = 0;
             for (int i = 0; i < queued[unit]; i++) {
                 int shot = queuedShot(unit, i);
-                if (!isAllShot(shot)) {
+                if (isAllShot(shot)) {
+                    swapIn(engaged, shot, 0);
+                } else {
                     putQueued(unit, kept, shot);
                     kept++;
                 }
@@ -2188,6 +2188,7 @@ public final class PuppetFilm {
         }
 
         private void release(int unit, Shot shot) {
+            swapIn(engaged, on[unit], 0);
             on[unit] = NONE;
             dressing[unit] = NONE;
             stirred = true;
@@ -2199,7 +2200,7 @@ public final class PuppetFilm {
         private boolean isWanted(int stage) {
             for (int s = 0; s < SHOTS; s++) {
                 Shot shot = studio.shotAt(s);
-                if (shot != null && shot.stage == stage && (isQueued(s) || isOn(s))) {
+                if (shot != null && shot.stage == stage && isEngaged(s)) {
                     return true;
                 }
             }

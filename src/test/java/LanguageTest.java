@@ -11,6 +11,7 @@ import java.util.IdentityHashMap;
 import java.util.List;
 import java.util.Map;
 import java.util.Set;
+import java.util.TreeMap;
 import java.util.TreeSet;
 import java.util.regex.Matcher;
 import java.util.regex.Pattern;
@@ -146,20 +147,60 @@ public final class LanguageTest {
         holds(!throwing.find(), "another throw");
     }
 
-    private static void lengths(String source) {
-        String[] lines = source.split("\n");
-        Pattern head = Pattern.compile("^(    |        )(?! )[^=;]*\\)( throws [\\w, ]+)? \\{$");
+    /** The lines of each method, by its name; a name that stands twice has the lines of both. */
+    private static Map<String, List<String>> methods(String source) {
+        String[] lines = source.replaceAll("\\)\n\\s+throws", ") throws").split("\n");
+        Pattern head = Pattern.compile("^(    |        )(?! )[^=;]*?(\\w+)\\([^=;]*\\)( throws [\\w, ]+)? \\{$");
+        Map<String, List<String>> methods = new TreeMap<>();
         for (int i = 0; i < lines.length; i++) {
             Matcher m = head.matcher(lines[i]);
             if (m.find()) {
-                int end = i;
+                int end = i + 1;
                 while (end < lines.length && !lines[end].equals(m.group(1) + "}")) {
                     end++;
                 }
-                holds(end - i < 60, "line " + (i + 1) + ": a method of " + (end - i + 1) + " lines");
+                holds(end - i < 60, m.group(2) + ": a method of " + (end - i + 1) + " lines");
+                methods.computeIfAbsent(m.group(2), k -> new ArrayList<>()).addAll(Arrays.asList(lines).subList(i + 1, end));
             }
-            holds(lines[i].length() <= 130, "line " + (i + 1) + " is long");
         }
+        return methods;
+    }
+
+    private static void lengths(String source) {
+        for (String line : source.split("\n")) {
+            holds(line.length() <= 130, "a long line: " + line);
+        }
+        Map<String, List<String>> methods = methods(source);
+        Map<String, Set<String>> calls = new TreeMap<>();
+        for (Map.Entry<String, List<String>> method : methods.entrySet()) {
+            Set<String> to = new TreeSet<>();
+            Matcher call = Pattern.compile("(?<!new )\\b(\\w+)\\(").matcher(withoutTextsAndComments(String.join("\n", method.getValue())));
+            while (call.find()) {
+                if (methods.containsKey(call.group(1)) && !call.group(1).equals(method.getKey())) {
+                    to.add(call.group(1));
+                }
+            }
+            calls.put(method.getKey(), to);
+        }
+        for (Method m : PuppetFilm.class.getDeclaredMethods()) {
+            if (Modifier.isPublic(m.getModifiers())) {
+                List<String> deepest = deepest(m.getName(), calls, List.of());
+                holds(deepest.size() <= 8, "calls go deep: " + deepest);
+            }
+        }
+    }
+
+    private static List<String> deepest(String from, Map<String, Set<String>> calls, List<String> open) {
+        List<String> way = new ArrayList<>(open);
+        way.add(from);
+        List<String> deepest = way;
+        for (String to : calls.getOrDefault(from, Set.of())) {
+            if (!way.contains(to)) {
+                List<String> next = deepest(to, calls, way);
+                deepest = next.size() > deepest.size() ? next : deepest;
+            }
+        }
+        return deepest;
     }
 
     /** All that the greatest film holds is small beside the room, which all calls of a run share. */
