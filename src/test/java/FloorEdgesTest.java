@@ -70,6 +70,19 @@ public final class FloorEdgesTest extends Edges {
         answersOnly(-1, FloorEdgesTest::sixAnimators, x -> x.animator(7));
     }
 
+    @Says("ANIMATORS, numbered from 0 on, 6 at most")
+    static void p36_theSixthWorksAsTheFirst() {
+        shots(x, 30, 30, 30);
+        for (int a = 3; a < 6; a++) {
+            is(a, x.animator(a));
+            x.station(a - 3, a);
+            x.queue(a - 3, a - 3);
+        }
+        x.floor(3);
+        taken(20, 20, 20);
+        are(new int[] {0, 0, 0, 2, 2, 2}, (x, animator) -> x.worked(animator));
+    }
+
     @Says({"work at most so many HALVES in a WEEK (0 to 14;", "IllegalArgumentException: the HALVES."})
     static void p36_halvesOf0To14() {
         bounds(0, 14, ARGUMENT, FloorEdgesTest::none, (x, halves) -> x.animator(halves));
