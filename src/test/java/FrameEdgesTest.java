@@ -227,6 +227,17 @@ public final class FrameEdgesTest extends Edges {
         is(1, x.step(1, 19, 0, 0));
     }
 
+    @Says({"repeat its S as many times", "or a repeat in four others"})
+    static void t2_framesOfFourRepeatsInOneAnother() {
+        simple(-32, 32);
+        is(0, tell(times(4, "repeat 2[") + "move 0.0 1 in 1;move 0.0 0 in 1;" + times(4, "];") + "move 0.0 5 in 1;"));
+        is(33, x.told(0, 0));
+        for (int f = 0; f < 32; f++) {
+            is(1 - f % 2, x.step(0, f, 0, 0));
+        }
+        is(5, x.step(0, 32, 0, 0));
+    }
+
     @Says("Ahead of the first one all STEPS, AXES and MOUTHS are 0, nobody is TIED or RIGGED.")
     static void t2_nothingIsLeftOfTheShotAhead() {
         simple(-32, 32);
